@@ -75,7 +75,7 @@ public final class LabelRouter {
     public int cut(int a, int b) throws IndexOutOfBoundsException, IllegalArgumentException {
         needNode(a);
         needNode(b);
-        if (a == b || network.portTo(a, b) == NONE) {
+        if (network.portTo(a, b) == NONE) {
             throw new IllegalArgumentException("there is no such edge");
         }
         int weight = network.weightTo(a, b);
@@ -209,9 +209,9 @@ public final class LabelRouter {
         needBelow(what, WALK_WHATS);
         switch (what) {
             case 0:
-                return scheme.wayWeight(a, b);
+                return scheme.wayTotal(a, b, true);
             case 1:
-                return scheme.wayHops(a, b);
+                return scheme.wayTotal(a, b, false);
             default:
                 return scheme.wayStretch(a, b);
         }
@@ -546,7 +546,7 @@ public final class LabelRouter {
         private int nearestLandmark(int node) {
             for (int i = 0; i < network.size(); i++) {
                 int other = ways.nearest(node, i);
-                if (isLandmark(other)) {
+                if (has(chosen, other)) {
                     return other;
                 }
             }
@@ -676,6 +676,7 @@ public final class LabelRouter {
     private static final class Scheme {
         /** Up a tree, down it, and straight on in clusters: each at most once past each node. */
         private static final int MOST_HOPS = 3 * MOST_NODES;
+        private static final int THOUSAND = 1000;
 
         private final Network network = new Network();
         private final Ways ways = new Ways(network);
@@ -745,7 +746,7 @@ public final class LabelRouter {
             int root = words[WORD_OWN];
             int place = words[WORD_PLACE];
             if (!forest.holds(root, at, place)) {
-                return forest.parentOf(root, at);
+                return ways.next(at, root);
             }
             int heavy = forest.heavyOf(root, at);
             if (heavy != NONE && forest.holds(root, heavy, place)) {
@@ -759,15 +760,8 @@ public final class LabelRouter {
             return from == to ? 0 : network.weightTo(from, to);
         }
 
-        int wayWeight(int from, int aim) {
-            return wayTotal(from, aim, true);
-        }
-
-        int wayHops(int from, int aim) {
-            return wayTotal(from, aim, false);
-        }
-
-        private int wayTotal(int from, int aim, boolean weighed) {
+        /** What the hops of a packet weigh until it is there, or how many they are. */
+        int wayTotal(int from, int aim, boolean weighed) {
             int total = 0;
             int at = from;
             for (int hops = 0; hops < MOST_HOPS && at != aim; hops++) {
@@ -782,9 +776,9 @@ public final class LabelRouter {
         int wayStretch(int from, int aim) {
             int least = ways.far(from, aim);
             if (least <= 0) {
-                return 1000;
+                return THOUSAND;
             }
-            return (1000 * wayWeight(from, aim) + least - 1) / least;
+            return (THOUSAND * wayTotal(from, aim, true) + least - 1) / least;
         }
     }
 

@@ -58,8 +58,10 @@ public final class ModelTest {
         setNodes(random.nextInt(6) == 0 ? random.nextInt(50) - 5 : 1 + random.nextInt(40));
         most = new int[] {1, 3, 20, 1000}[random.nextInt(4)];
         boolean lonely = random.nextInt(10) == 0;
+        // Few hubs come to have all their ports taken.
+        int hubs = random.nextInt(4) == 0 ? 2 : 40;
         for (int b = lonely ? 2 : 1; b < n; b++) {
-            int a = random.nextInt(3) == 0 ? b - 1 : random.nextInt(b);
+            int a = random.nextInt(3) == 0 ? b - 1 : random.nextInt(Math.min(b, hubs));
             edge(a, b, 1 + random.nextInt(most));
         }
         int more = random.nextInt(3) * random.nextInt(n + 1);
