@@ -51,7 +51,7 @@ final class Nets {
         return x;
     }
 
-    /** Hundreds are needed for nothing but to be no number of a node, port, word or packet. */
+    /** Numbers of which none is 0 .. bound - 1, the nearest and the farthest. */
     static int[] notBelow(int bound) {
         return new int[] {-1, bound, bound + 100, Integer.MIN_VALUE, Integer.MAX_VALUE};
     }
