@@ -1,174 +1,138 @@
-/** Promises 6 to 8: build, landmark and table. */
+/** Promise 6: build. */
 public final class BuildTest {
     private static final Check CHECK = new Check();
 
     public static void main(String[] args) {
-        line();
-        buckets();
-        ties();
-        crowdedClusters();
-        refusals();
-        whatIsBuiltStays();
-        failedBuilds();
-        builtAnew();
+        CHECK.sentence("6: The network is BUILT", BuildTest::isBuilt);
+        CHECK.sentence("6: how many landmarks there are", BuildTest::howMany);
+        CHECK.sentence("6: There are no packets then", BuildTest::noPacketsThen);
+        CHECK.sentence("6: IllegalArgumentException, when bucket is not 1 .. 40", BuildTest::bucket);
+        CHECK.sentence("6: IllegalStateException, when not all nodes are joined by ways",
+                BuildTest::notJoined);
+        CHECK.sentence("6: what was built stays", BuildTest::builtStays);
+        CHECK.sentence("6: what was built stays, its packets too", BuildTest::packetsStay);
+        CHECK.sentence("6: what was built stays, a wrong bucket being told", BuildTest::wrongBucketStays);
+        CHECK.sentence("6: of several exceptions the one named first", BuildTest::refusedFirst);
         CHECK.end();
     }
 
-    private static void landmarks(String what, LabelRouter x, int... due) {
-        for (int i = 0; i < due.length; i++) {
-            int at = i;
-            CHECK.answers(due[i], what + ": landmark(" + i + ")", () -> x.landmark(at));
-        }
-        CHECK.refuses(Nets.NO_INDEX, what + ": no further one", () -> x.landmark(due.length));
-    }
-
-    private static void tables(String what, LabelRouter x, int word, int... due) {
-        for (int node = 0; node < due.length; node++) {
-            int at = node;
-            CHECK.answers(due[node], what + ": table(" + node + ", " + word + ")",
-                    () -> x.table(at, word));
-        }
-    }
-
-    private static void line() {
+    private static void isBuilt() {
         LabelRouter x = Nets.line();
-        CHECK.answers(2, "line: build(2)", () -> x.build(2));
-        landmarks("line", x, 1, 3);
-        tables("line", x, 0, 3, 2, 3, 2, 3);
-        tables("line", x, 1, 1, 0, 1, 0, 1);
-        tables("line", x, 2, 1, 1, 1, 3, 3);
-    }
-
-    private static void buckets() {
-        LabelRouter x = Nets.ring(6, 3);
-        CHECK.answers(6, "each ball its node alone", () -> x.build(1));
-        landmarks("bucket 1", x, 0, 1, 2, 3, 4, 5);
-        tables("bucket 1", x, 0, 6, 6, 6, 6, 6, 6);
-        tables("bucket 1", x, 1, 0, 0, 0, 0, 0, 0);
-        CHECK.answers(1, "each ball all nodes", () -> x.build(6));
-        landmarks("bucket 6", x, 0);
-        CHECK.answers(1, "a bucket of more than there are", () -> x.build(40));
-        landmarks("bucket 40", x, 0);
-        LabelRouter lone = new LabelRouter();
-        CHECK.answers(1, "one node", () -> lone.build(40));
-        landmarks("one node", lone, 0);
-        tables("one node", lone, 0, 1);
-        tables("one node", lone, 1, 0);
-        tables("one node", lone, 2, 0);
-        // The balls of a ring: 0 1 5, 1 0 2, 2 1 3, 3 2 4, 4 3 5, 5 0 4.
-        CHECK.answers(2, "balls of three in a ring", () -> x.build(3));
-        landmarks("bucket 3", x, 0, 3);
-        tables("bucket 3", x, 2, 0, 0, 3, 3, 3, 0);
-    }
-
-    private static void ties() {
-        // Of the balls 0 5, 1 5 .. 5 0 the node 5 is in all, of 0 1 5, 1 0 5 .. node 0 is, too.
-        LabelRouter x = Nets.star(6, 5);
-        CHECK.answers(1, "star: build(2)", () -> x.build(2));
-        landmarks("star, bucket 2", x, 5);
-        CHECK.answers(1, "star: build(3)", () -> x.build(3));
-        landmarks("star, bucket 3: the lower of 0 and 5", x, 0);
-        tables("star, bucket 3", x, 1, 0, 1, 1, 1, 1, 5);
-        // The balls of a ring of four: 0 1, 1 0, 2 1, 3 0: those as near are the lower numbers.
-        LabelRouter y = Nets.ring(4, 1);
-        CHECK.answers(2, "ring of four: build(2)", () -> y.build(2));
-        landmarks("ring of four", y, 0, 1);
-        tables("ring of four", y, 2, 0, 1, 1, 0);
-        // Node 2 is as near to 1 as to 3: its own is the lower.
-        CHECK.answers(1, "own landmark of those as near", () -> {
-            LabelRouter z = Nets.line();
-            z.build(2);
-            return z.table(2, 2);
-        });
-    }
-
-    private static void crowdedClusters() {
-        LabelRouter x = Crowds.made(Crowds.TWO_CROWDED);
-        CHECK.answers(9, "8 first ones and 9", () -> x.build(5));
-        CHECK.holds("9 is a landmark", isLandmark(x, 9));
-        CHECK.holds("38 is none: its cluster is small now", !isLandmark(x, 38));
-        CHECK.answers(0, "the cluster of 9 is empty now", () -> x.table(9, 1));
-        clustersAtMost(x, 20);
-        LabelRouter y = Crowds.made(Crowds.CROWDED_TWICE);
-        CHECK.answers(12, "10 first ones, 19 and 36", () -> y.build(4));
-        CHECK.holds("19 is a landmark", isLandmark(y, 19));
-        CHECK.holds("36 is a landmark", isLandmark(y, 36));
-        clustersAtMost(y, 16);
-        LabelRouter z = Crowds.made(Crowds.AS_CROWDED_AS_MAY_BE);
-        CHECK.answers(9, "the first ones alone", () -> z.build(4));
-        CHECK.answers(18, "as many as 4 n / 9, rounded up", () -> z.table(19, 1));
-    }
-
-    private static boolean isLandmark(LabelRouter x, int node) {
-        return x.table(node, 2) == node;
-    }
-
-    private static void clustersAtMost(LabelRouter x, int most) {
-        for (int node = 0; node < 40; node++) {
-            CHECK.holds("the cluster of " + node + " is small", x.table(node, 1) <= most);
-        }
-    }
-
-    private static void refusals() {
-        LabelRouter x = Nets.line();
-        CHECK.refuses(Nets.NO_STATE, "landmark before build", () -> x.landmark(-1));
-        CHECK.refuses(Nets.NO_STATE, "table before build", () -> x.table(99, 99));
-        for (int no : new int[] {0, 41, -1, Integer.MIN_VALUE, Integer.MAX_VALUE}) {
-            CHECK.refuses(Nets.NO_ARGUMENT, "build(" + no + ")", () -> x.build(no));
-        }
+        CHECK.noState("before", () -> x.walk(0, 4, 0));
         x.build(2);
-        for (int no : Nets.notBelow(2)) {
-            CHECK.refuses(Nets.NO_INDEX, "landmark(" + no + ")", () -> x.landmark(no));
-        }
-        for (int no : Nets.notBelow(5)) {
-            CHECK.refuses(Nets.NO_INDEX, "table(" + no + ", 0)", () -> x.table(no, 0));
-        }
-        for (int no : Nets.notBelow(3)) {
-            CHECK.refuses(Nets.NO_INDEX, "table(0, " + no + ")", () -> x.table(0, no));
-        }
-    }
-
-    private static void whatIsBuiltStays() {
-        LabelRouter x = Nets.line();
-        x.build(2);
-        x.edge(0, 4, 1);
-        x.edge(1, 2, 900);
-        x.cut(0, 1);
-        landmarks("after other edges", x, 1, 3);
-        tables("after other edges", x, 1, 1, 0, 1, 0, 1);
-        tables("after other edges", x, 2, 1, 1, 1, 3, 3);
-        CHECK.answers(0, "a row is as it was", () -> x.row(0, 1));
-        CHECK.answers(1, "a label is as it was", () -> x.label(0, 4));
-        CHECK.answers(2, "a tree is as it was", () -> x.tree(1, 1, 2));
-    }
-
-    private static void failedBuilds() {
-        LabelRouter x = Nets.line();
-        x.build(2);
-        x.send(0, 4);
-        x.hop(0);
-        x.cut(3, 4);
-        CHECK.refuses(Nets.NO_STATE, "not all are joined", () -> x.build(1));
-        CHECK.refuses(Nets.NO_ARGUMENT, "the bucket before the ways", () -> x.build(0));
-        landmarks("what was built stays", x, 1, 3);
-        CHECK.answers(1, "its packets stay", () -> x.weight(0));
-        CHECK.answers(2, "and go on", () -> x.hop(0));
-        CHECK.answers(4, "and its ways stay", () -> x.walk(0, 4, 0));
-        LabelRouter y = new LabelRouter();
-        y.nodes(2);
-        CHECK.refuses(Nets.NO_STATE, "two lone nodes", () -> y.build(1));
-        CHECK.refuses(Nets.NO_STATE, "nothing is built", () -> y.landmark(0));
-    }
-
-    private static void builtAnew() {
-        LabelRouter x = Nets.line();
+        CHECK.answers(4, "built", () -> x.walk(0, 4, 0));
+        x.edge(0, 4, 2);
+        CHECK.answers(4, "an edge more", () -> x.walk(0, 4, 0));
         x.build(1);
-        x.send(0, 4);
-        x.send(0, 4);
-        CHECK.answers(2, "built anew", () -> x.build(2));
-        landmarks("built anew", x, 1, 3);
-        CHECK.refuses(Nets.NO_ARGUMENT, "no packets then", () -> x.hop(0));
-        CHECK.refuses(Nets.NO_ARGUMENT, "no weights then", () -> x.weight(1));
-        CHECK.answers(0, "the first packet then", () -> x.send(0, 1));
+        CHECK.answers(2, "built anew with it", () -> x.walk(0, 4, 0));
+        CHECK.answers(4, "the landmarks are new", () -> x.landmark(4));
+        x.build(40);
+        CHECK.noIndex("there are fewer again", () -> x.landmark(1));
+    }
+
+    private static void howMany() {
+        LabelRouter one = new LabelRouter();
+        CHECK.answers(1, "one node", () -> one.build(1));
+        LabelRouter x = Nets.ring(40, 7);
+        CHECK.answers(40, "bucket 1: all", () -> x.build(1));
+        CHECK.answers(1, "bucket 40: one", () -> x.build(40));
+        CHECK.answers(2, "a line of five, bucket 2", () -> Nets.line().build(2));
+        // 8 first ones, and one whose cluster was too large.
+        CHECK.answers(9, "the later ones count", () -> Crowds.made(Crowds.TWO_CROWDED).build(5));
+    }
+
+    private static void noPacketsThen() {
+        LabelRouter x = Nets.builtLine();
+        for (int i = 0; i < 19; i++) {
+            x.send(0, 4);
+        }
+        x.build(2);
+        for (int i = 0; i < 16; i++) {
+            int packet = i;
+            CHECK.noArgument("hop(" + packet + ")", () -> x.hop(packet));
+            CHECK.noArgument("weight(" + packet + ")", () -> x.weight(packet));
+        }
+        CHECK.answers(0, "the first packet has number 0", () -> x.send(0, 4));
+        CHECK.answers(0, "and weighs nothing", () -> x.weight(0));
+        CHECK.noArgument("and is the only one", () -> x.weight(1));
+    }
+
+    private static void bucket() {
+        LabelRouter x = Nets.line();
+        for (int no : Nets.notUpTo(40)) {
+            CHECK.noArgument("build(" + no + ")", () -> x.build(no));
+        }
+        CHECK.noState("what is refused builds nothing", () -> x.landmark(0));
+        CHECK.answers(5, "build(1)", () -> x.build(1));
+        CHECK.answers(1, "build(40)", () -> x.build(40));
+    }
+
+    private static void notJoined() {
+        LabelRouter x = new LabelRouter();
+        x.nodes(2);
+        CHECK.noState("two lone nodes", () -> x.build(1));
+        CHECK.noState("nothing is built", () -> x.landmark(0));
+        x.edge(1, 0, 1000);
+        CHECK.answers(1, "joined", () -> x.build(2));
+        // The last node, the first, and a half of all are apart.
+        LabelRouter y = Nets.ring(40, 1);
+        y.cut(38, 39);
+        CHECK.answers(1, "a line is joined", () -> y.build(40));
+        y.cut(39, 0);
+        CHECK.noState("39 is apart", () -> y.build(40));
+        y.edge(39, 38, 1);
+        y.cut(0, 1);
+        CHECK.noState("0 is apart", () -> y.build(40));
+        y.edge(0, 39, 1);
+        y.cut(19, 20);
+        CHECK.noState("1 .. 19 are apart", () -> y.build(40));
+        y.edge(5, 25, 1);
+        CHECK.answers(1, "joined again", () -> y.build(40));
+    }
+
+    private static void builtStays() {
+        LabelRouter x = Nets.of(4, new int[][] {{0, 1, 3}, {1, 2, 7}, {0, 2, 8}, {2, 3, 5}});
+        x.build(3);
+        String before = Whole.built(x, 4);
+        x.cut(2, 3);
+        x.edge(0, 1, 1000);
+        CHECK.noState("3 is apart", () -> x.build(1));
+        CHECK.noState("with another bucket, too", () -> x.build(40));
+        CHECK.same("what was built", Whole.built(x, 4), before);
+    }
+
+    private static void packetsStay() {
+        LabelRouter x = Nets.builtLine();
+        for (int i = 0; i < 18; i++) {
+            x.send(0, 4);
+        }
+        x.hop(3);
+        x.cut(3, 4);
+        String before = Whole.packets(x);
+        CHECK.noState("4 is apart", () -> x.build(1));
+        CHECK.same("the packets", Whole.packets(x), before);
+        CHECK.answers(2, "a packet goes on", () -> x.hop(3));
+        CHECK.answers(1, "another goes", () -> x.hop(15));
+        CHECK.answers(2, "the next one takes its turn", () -> x.send(4, 0));
+        CHECK.answers(3, "it goes as was built", () -> x.hop(2));
+    }
+
+    private static void wrongBucketStays() {
+        LabelRouter x = Nets.triangle(3, 7, 8);
+        x.send(2, 1);
+        x.hop(0);
+        String before = Whole.built(x, 3) + Whole.packets(x);
+        for (int no : Nets.notUpTo(40)) {
+            CHECK.noArgument("build(" + no + ")", () -> x.build(no));
+        }
+        CHECK.same("what was built", Whole.built(x, 3) + Whole.packets(x), before);
+    }
+
+    private static void refusedFirst() {
+        LabelRouter x = new LabelRouter();
+        x.nodes(2);
+        CHECK.noArgument("a wrong bucket, and not joined", () -> x.build(0));
+        CHECK.noArgument("a wrong bucket, and not joined", () -> x.build(41));
+        CHECK.noState("not joined", () -> x.build(40));
     }
 }

@@ -4,14 +4,27 @@ final class Check {
         int run();
     }
 
+    private String sentence = "";
+    private int sentences;
     private int wrong;
     private int done;
 
-    void is(String what, long got, long due) {
-        done++;
-        if (got != due) {
-            tell(what + " answered " + got + ", due is " + due);
+    /** A test of its own for a sentence of the document: where that stands, and its words. */
+    void sentence(String words, Runnable test) {
+        sentence = words;
+        sentences++;
+        int before = done;
+        try {
+            test.run();
+        } catch (RuntimeException e) {
+            tell("the test ended with " + e);
         }
+        holds("something is tested", done > before);
+        sentence = "";
+    }
+
+    void is(String what, long got, long due) {
+        same(what, String.valueOf(got), String.valueOf(due));
     }
 
     void holds(String what, boolean so) {
@@ -25,7 +38,19 @@ final class Check {
         same(what, outcome(call), String.valueOf(due));
     }
 
-    void refuses(Class<? extends RuntimeException> due, String what, Call call) {
+    void noIndex(String what, Call call) {
+        refuses(IndexOutOfBoundsException.class, what, call);
+    }
+
+    void noArgument(String what, Call call) {
+        refuses(IllegalArgumentException.class, what, call);
+    }
+
+    void noState(String what, Call call) {
+        refuses(IllegalStateException.class, what, call);
+    }
+
+    private void refuses(Class<? extends RuntimeException> due, String what, Call call) {
         same(what, outcome(call), due.getName());
     }
 
@@ -48,12 +73,13 @@ final class Check {
     private void tell(String text) {
         wrong++;
         if (wrong <= 50) {
-            System.out.println(text);
+            System.out.println(sentence.isEmpty() ? text : "[" + sentence + "] " + text);
         }
     }
 
     void end() {
-        System.out.println(done + " checks, " + wrong + " wrong");
+        String tested = sentences == 0 ? "" : sentences + " sentences, ";
+        System.out.println(tested + done + " checks, " + wrong + " wrong");
         if (wrong != 0) {
             System.exit(1);
         }

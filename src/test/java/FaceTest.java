@@ -25,35 +25,60 @@ public final class FaceTest {
         "int walk(int,int,int) IllegalStateException,IndexOutOfBoundsException",
     };
 
+    private static final Check CHECK = new Check();
+
     public static void main(String[] args) {
-        Check check = new Check();
-        int mask = Modifier.PUBLIC | Modifier.FINAL | Modifier.ABSTRACT;
-        check.is("LabelRouter is public and final", LabelRouter.class.getModifiers() & mask,
-                Modifier.PUBLIC | Modifier.FINAL);
-        check.is("NONE", LabelRouter.NONE, -1);
-        methods(check);
-        fields(check);
-        Constructor<?>[] made = LabelRouter.class.getDeclaredConstructors();
-        check.is("constructors", made.length, 1);
-        check.is("parameters of the constructor", made[0].getParameterCount(), 0);
-        check.holds("the constructor is public", Modifier.isPublic(made[0].getModifiers()));
-        check.end();
+        CHECK.sentence("The public face: public final class LabelRouter", FaceTest::theClass);
+        CHECK.sentence("Terms: NONE = -1", FaceTest::theConstant);
+        CHECK.sentence("The public face: its constructor", FaceTest::theConstructor);
+        CHECK.sentence("The public face: its methods", FaceTest::methods);
+        CHECK.sentence("LANGUAGE.md, rule 1: no other public member", FaceTest::others);
+        CHECK.end();
     }
 
-    private static void methods(Check check) {
-        TreeSet<String> names = new TreeSet<>();
+    private static void theClass() {
+        int mask = Modifier.PUBLIC | Modifier.FINAL | Modifier.ABSTRACT;
+        CHECK.is("its modifiers", LabelRouter.class.getModifiers() & mask,
+                Modifier.PUBLIC | Modifier.FINAL);
+    }
+
+    private static void theConstant() {
+        CHECK.is("NONE", LabelRouter.NONE, -1);
+    }
+
+    private static void theConstructor() {
+        Constructor<?>[] made = LabelRouter.class.getDeclaredConstructors();
+        CHECK.is("constructors", made.length, 1);
+        CHECK.is("parameters of the constructor", made[0].getParameterCount(), 0);
+        CHECK.holds("the constructor is public", Modifier.isPublic(made[0].getModifiers()));
+    }
+
+    private static void methods() {
         TreeSet<String> seen = new TreeSet<>();
         for (Method method : LabelRouter.class.getDeclaredMethods()) {
             if (Modifier.isPublic(method.getModifiers())) {
                 seen.add(signature(method));
+            }
+        }
+        CHECK.same("the public methods", seen.toString(), new TreeSet<>(Arrays.asList(FACE)).toString());
+    }
+
+    private static void others() {
+        TreeSet<String> names = new TreeSet<>();
+        for (Method method : LabelRouter.class.getDeclaredMethods()) {
+            if (Modifier.isPublic(method.getModifiers())) {
                 names.add(method.getName());
             }
         }
-        check.same("the public methods", seen.toString(), new TreeSet<>(Arrays.asList(FACE)).toString());
         for (Method method : LabelRouter.class.getDeclaredMethods()) {
             if (!Modifier.isPublic(method.getModifiers()) && !method.isSynthetic()) {
-                check.holds(method + " is private", Modifier.isPrivate(method.getModifiers()));
-                check.holds(method + " has a name of its own", !names.contains(method.getName()));
+                CHECK.holds(method + " is private", Modifier.isPrivate(method.getModifiers()));
+                CHECK.holds(method + " has a name of its own", !names.contains(method.getName()));
+            }
+        }
+        for (Field field : LabelRouter.class.getDeclaredFields()) {
+            if (!field.getName().equals("NONE")) {
+                CHECK.holds(field + " is private", Modifier.isPrivate(field.getModifiers()));
             }
         }
     }
@@ -71,13 +96,5 @@ public final class FaceTest {
             text.append(text.length() == 0 ? "" : ",").append(type.getSimpleName());
         }
         return text.toString();
-    }
-
-    private static void fields(Check check) {
-        for (Field field : LabelRouter.class.getDeclaredFields()) {
-            if (!field.getName().equals("NONE")) {
-                check.holds(field + " is private", Modifier.isPrivate(field.getModifiers()));
-            }
-        }
     }
 }
