@@ -10,9 +10,9 @@ public final class BuildTest {
         CHECK.sentence("6: IllegalStateException, when not all nodes are joined by ways",
                 BuildTest::notJoined);
         CHECK.sentence("6: what was built stays", BuildTest::builtStays);
-        CHECK.sentence("6: what was built stays, its packets too", BuildTest::packetsStay);
-        CHECK.sentence("6: what was built stays, a wrong bucket being told", BuildTest::wrongBucketStays);
-        CHECK.sentence("6: of several exceptions the one named first", BuildTest::refusedFirst);
+        CHECK.sentence("6, as read: what was built stays, its packets too", BuildTest::packetsStay);
+        CHECK.sentence("6, as read: a wrong bucket being told, too", BuildTest::wrongBucketStays);
+        CHECK.sentence("6, as read: of several exceptions the one named first", BuildTest::refusedFirst);
         CHECK.end();
     }
 

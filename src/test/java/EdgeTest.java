@@ -31,8 +31,10 @@ public final class EdgeTest {
         CHECK.sentence("3: IllegalStateException, when it would be a new edge, and one of them has 16",
                 EdgeTest::fullNode);
         CHECK.sentence("3: it would be a new edge", EdgeTest::noNewEdgeOfFullNodes);
-        CHECK.sentence("3: of several exceptions the one named first", EdgeTest::edgeRefusedFirst);
-        CHECK.sentence("3: a refused call changes nothing", EdgeTest::refusedEdgeChangesNothing);
+        CHECK.sentence("3, as read: of several exceptions the one named first",
+                EdgeTest::edgeRefusedFirst);
+        CHECK.sentence("3, as read: a refused call changes nothing",
+                EdgeTest::refusedEdgeChangesNothing);
     }
 
     private static void promise4() {
@@ -40,7 +42,8 @@ public final class EdgeTest {
         CHECK.sentence("4: its weight", EdgeTest::weightOfCut);
         CHECK.sentence("4: IndexOutOfBoundsException, when one is no node", EdgeTest::cutOfNoNode);
         CHECK.sentence("4: IllegalArgumentException, when there is none", EdgeTest::cutOfNoEdge);
-        CHECK.sentence("4: a refused call changes nothing", EdgeTest::refusedCutChangesNothing);
+        CHECK.sentence("4, as read: a refused call changes nothing",
+                EdgeTest::refusedCutChangesNothing);
     }
 
     private static void promise5() {

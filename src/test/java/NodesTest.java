@@ -11,7 +11,7 @@ public final class NodesTest {
         CHECK.sentence("2: not built", NodesTest::notBuiltThen);
         CHECK.sentence("2: no packets", NodesTest::noPacketsThen);
         CHECK.sentence("2: IllegalArgumentException, when n is not 1 .. 40", NodesTest::refused);
-        CHECK.sentence("2: a refused call changes nothing", NodesTest::refusedChangesNothing);
+        CHECK.sentence("2, as read: a refused call changes nothing", NodesTest::refusedChangesNothing);
         CHECK.end();
     }
 

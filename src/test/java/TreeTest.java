@@ -14,13 +14,14 @@ public final class TreeTest {
         CHECK.sentence("Terms: each child's place is one more than the greatest at or below what "
                 + "comes before it", TreeTest::placesOfChildren);
         CHECK.sentence("11: Of a node in the tree of a landmark", TreeTest::eachLandmarkHasOne);
+        CHECK.sentence("11: its place (what 0), its size (1)", TreeTest::eachWhat);
         CHECK.sentence("11: its heavy child, or NONE (2)", TreeTest::noHeavyChild);
         CHECK.sentence("11: its parent, or NONE (3)", TreeTest::noParent);
         CHECK.sentence("11: IllegalStateException likewise", TreeTest::notBuilt);
         CHECK.sentence("11: IndexOutOfBoundsException, when one is no node", TreeTest::noNode);
         CHECK.sentence("11: or there is no such what", TreeTest::noSuchWhat);
         CHECK.sentence("11: IllegalArgumentException, when landmark is none", TreeTest::noLandmark);
-        CHECK.sentence("11: of several exceptions the one named first", TreeTest::refusedFirst);
+        CHECK.sentence("11, as read: of several exceptions the one named first", TreeTest::refusedFirst);
         CHECK.end();
     }
 
@@ -131,6 +132,17 @@ public final class TreeTest {
         x.build(1);
         all(x, 4, 0, 4, 3, 2, 1, 0);
         all(x, 2, 0, 2, 1, 0, 3, 4);
+    }
+
+    private static void eachWhat() {
+        LabelRouter x = Nets.builtLine();
+        int[] of2In1 = {1, 3, 3, 1};
+        int[] of1In3 = {2, 2, 0, 2};
+        for (int i = 0; i < 4; i++) {
+            int what = i;
+            CHECK.answers(of2In1[what], "tree(1, 2, " + what + ")", () -> x.tree(1, 2, what));
+            CHECK.answers(of1In3[what], "tree(3, 1, " + what + ")", () -> x.tree(3, 1, what));
+        }
     }
 
     private static void noHeavyChild() {

@@ -13,7 +13,7 @@ public final class WalkTest {
         CHECK.sentence("16: IllegalStateException, when nothing is built", WalkTest::notBuilt);
         CHECK.sentence("16: IndexOutOfBoundsException, when one is no node", WalkTest::noNode);
         CHECK.sentence("16: or there is no such what", WalkTest::noSuchWhat);
-        CHECK.sentence("16: a walk leaves no packet", WalkTest::noPackets);
+        CHECK.sentence("16, as read: a walk leaves no packet", WalkTest::noPackets);
         CHECK.sentence("What it is: no way is more than three times as long as need be",
                 WalkTest::atMostThreeTimes);
         CHECK.end();
