@@ -1,3 +1,5 @@
+import java.util.Arrays;
+
 /** Counts and prints what is not as due; a test ends with exit code 1 if there was any. */
 final class Check {
     interface Call {
@@ -54,11 +56,19 @@ final class Check {
         same(what, outcome(call), due.getName());
     }
 
+    /** Of texts of several lines the first one that differs is told. */
     void same(String what, String got, String due) {
         done++;
+        String[] gotLines = got.split("\n", -1);
+        String[] dueLines = due.split("\n", -1);
+        int line = Math.max(0, Arrays.mismatch(gotLines, dueLines));
         if (!got.equals(due)) {
-            tell(what + " answered " + got + ", due is " + due);
+            tell(what + " answered " + at(gotLines, line) + ", due is " + at(dueLines, line));
         }
+    }
+
+    private static String at(String[] lines, int line) {
+        return line < lines.length ? lines[line] : "nothing";
     }
 
     /** The answer of a call as a text, or the name of the very class that it throws. */

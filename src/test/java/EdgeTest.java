@@ -31,10 +31,6 @@ public final class EdgeTest {
         CHECK.sentence("3: IllegalStateException, when it would be a new edge, and one of them has 16",
                 EdgeTest::fullNode);
         CHECK.sentence("3: it would be a new edge", EdgeTest::noNewEdgeOfFullNodes);
-        CHECK.sentence("3, as read: of several exceptions the one named first",
-                EdgeTest::edgeRefusedFirst);
-        CHECK.sentence("3, as read: a refused call changes nothing",
-                EdgeTest::refusedEdgeChangesNothing);
     }
 
     private static void promise4() {
@@ -42,8 +38,6 @@ public final class EdgeTest {
         CHECK.sentence("4: its weight", EdgeTest::weightOfCut);
         CHECK.sentence("4: IndexOutOfBoundsException, when one is no node", EdgeTest::cutOfNoNode);
         CHECK.sentence("4: IllegalArgumentException, when there is none", EdgeTest::cutOfNoEdge);
-        CHECK.sentence("4, as read: a refused call changes nothing",
-                EdgeTest::refusedCutChangesNothing);
     }
 
     private static void promise5() {
@@ -238,38 +232,6 @@ public final class EdgeTest {
         CHECK.answers(15, "another weight at the last port", () -> x.edge(0, 16, 5));
     }
 
-    private static void edgeRefusedFirst() {
-        LabelRouter x = Nets.star(17, 0);
-        CHECK.noIndex("no node, the same, no weight", () -> x.edge(17, 17, 0));
-        CHECK.noIndex("no node, and 16 at the other", () -> x.edge(0, 17, 1));
-        x.nodes(18);
-        for (int i = 1; i < 17; i++) {
-            x.edge(0, i, 1);
-        }
-        CHECK.noArgument("no weight, and 16", () -> x.edge(0, 17, 0));
-        CHECK.noArgument("no weight, and 16 at the other", () -> x.edge(17, 0, 1001));
-        CHECK.noArgument("the same, and 16", () -> x.edge(0, 0, 1));
-    }
-
-    private static void refusedEdgeChangesNothing() {
-        LabelRouter x = Nets.triangle(3, 7, 8);
-        String before = Whole.built(x, 3) + Whole.network(x, 3);
-        CHECK.noIndex("edge(0, 3, 1)", () -> x.edge(0, 3, 1));
-        CHECK.noArgument("edge(2, 2, 1)", () -> x.edge(2, 2, 1));
-        CHECK.noArgument("edge(0, 1, 1001)", () -> x.edge(0, 1, 1001));
-        CHECK.same("the object", Whole.built(x, 3) + Whole.network(x, 3), before);
-        LabelRouter y = new LabelRouter();
-        y.nodes(18);
-        for (int i = 1; i < 17; i++) {
-            y.edge(0, i, 1);
-        }
-        CHECK.noState("edge(0, 17, 1)", () -> y.edge(0, 17, 1));
-        CHECK.noState("edge(17, 0, 1)", () -> y.edge(17, 0, 1));
-        CHECK.answers(LabelRouter.NONE, "no port of the other is taken", () -> y.port(17, 0));
-        CHECK.answers(LabelRouter.NONE, "there is no way", () -> y.distance(0, 17));
-        CHECK.answers(16, "the last edge stays", () -> y.port(0, 15));
-    }
-
     private static void takesAway() {
         LabelRouter x = Nets.star(6, 0);
         x.cut(0, 2);
@@ -312,16 +274,6 @@ public final class EdgeTest {
         CHECK.noArgument("cut twice, from the other end", () -> x.cut(1, 0));
         LabelRouter y = new LabelRouter();
         CHECK.noArgument("of a new object", () -> y.cut(0, 0));
-    }
-
-    private static void refusedCutChangesNothing() {
-        LabelRouter x = Nets.of(4, new int[][] {{0, 1, 3}, {1, 2, 7}});
-        String before = Whole.network(x, 4);
-        CHECK.noIndex("cut(0, 4)", () -> x.cut(0, 4));
-        CHECK.noArgument("cut(0, 2)", () -> x.cut(0, 2));
-        CHECK.noArgument("cut(1, 1)", () -> x.cut(1, 1));
-        CHECK.noArgument("cut(3, 0)", () -> x.cut(3, 0));
-        CHECK.same("the edges", Whole.network(x, 4), before);
     }
 
     private static void behindPort() {

@@ -225,6 +225,9 @@ public final class LandmarkTest {
         LabelRouter x = Crowds.made(Crowds.AS_CROWDED_AS_MAY_BE);
         CHECK.answers(9, "the 9 first ones alone", () -> x.build(4));
         CHECK.answers(18, "the cluster of 19: 4 * 40 / 9 is 17.8", () -> x.table(19, 1));
+        LabelRouter y = Nets.of(23, Crowds.ROUNDED_FROM_LITTLE);
+        CHECK.answers(7, "the 7 first ones alone", () -> y.build(4));
+        CHECK.answers(14, "the cluster of 15: 4 * 23 / 7 is 13.1", () -> y.table(15, 1));
     }
 
     private static void lowestCrowded() {
@@ -232,6 +235,10 @@ public final class LandmarkTest {
         x.build(5);
         CHECK.holds("9, with 21, is one", isLandmark(x, 9));
         CHECK.holds("38, with 22, is none: its cluster is small then", !isLandmark(x, 38));
+        LabelRouter y = Nets.of(30, Crowds.ZERO_CROWDED);
+        CHECK.answers(8, "7 first ones and the lowest of all", () -> y.build(4));
+        CHECK.answers(0, "that is 0", () -> y.landmark(0));
+        CHECK.answers(0, "its cluster is empty now", () -> y.table(0, 1));
     }
 
     private static void crowdedTwice() {

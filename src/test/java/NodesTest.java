@@ -11,7 +11,6 @@ public final class NodesTest {
         CHECK.sentence("2: not built", NodesTest::notBuiltThen);
         CHECK.sentence("2: no packets", NodesTest::noPacketsThen);
         CHECK.sentence("2: IllegalArgumentException, when n is not 1 .. 40", NodesTest::refused);
-        CHECK.sentence("2, as read: a refused call changes nothing", NodesTest::refusedChangesNothing);
         CHECK.end();
     }
 
@@ -131,17 +130,5 @@ public final class NodesTest {
         }
         CHECK.answers(0, "nodes(1)", () -> setNodes(x, 1));
         CHECK.answers(0, "nodes(40)", () -> setNodes(x, 40));
-    }
-
-    private static void refusedChangesNothing() {
-        LabelRouter x = Nets.triangle(3, 7, 8);
-        x.send(2, 1);
-        x.hop(0);
-        String before = Whole.built(x, 3) + Whole.network(x, 3) + Whole.packets(x);
-        for (int n : Nets.notUpTo(40)) {
-            CHECK.noArgument("nodes(" + n + ")", () -> setNodes(x, n));
-        }
-        CHECK.same("the object", Whole.built(x, 3) + Whole.network(x, 3) + Whole.packets(x), before);
-        CHECK.answers(1, "the packet goes on", () -> x.hop(0));
     }
 }

@@ -16,14 +16,15 @@ public final class PacketTest {
         CHECK.sentence("12: the 16 latest", PacketTest::sixteenLatest);
         CHECK.sentence("12: IllegalStateException likewise", PacketTest::notBuilt);
         CHECK.sentence("12: IndexOutOfBoundsException, when one is no node", PacketTest::noNode);
-        CHECK.sentence("12, as read: a refused call takes no number", PacketTest::refusedTakesNoNumber);
+        CHECK.sentence("12: 0 at first (a refused call takes no number)",
+                PacketTest::refusedTakesNoNumber);
     }
 
     private static void promise14() {
         CHECK.sentence("14: What a packet's hops weighed together", PacketTest::together);
-        CHECK.sentence("14, as read: nothing before the first hop",
+        CHECK.sentence("14: What a packet's hops weighed together (before the first)",
                 PacketTest::beforeTheFirst);
-        CHECK.sentence("14, as read: nothing after the last hop",
+        CHECK.sentence("14: What a packet's hops weighed together (when it is there)",
                 PacketTest::afterTheLast);
         CHECK.sentence("14: as they were when it was built", PacketTest::asBuilt);
         CHECK.sentence("14: IllegalArgumentException likewise", PacketTest::noPacket);

@@ -21,7 +21,6 @@ public final class TreeTest {
         CHECK.sentence("11: IndexOutOfBoundsException, when one is no node", TreeTest::noNode);
         CHECK.sentence("11: or there is no such what", TreeTest::noSuchWhat);
         CHECK.sentence("11: IllegalArgumentException, when landmark is none", TreeTest::noLandmark);
-        CHECK.sentence("11, as read: of several exceptions the one named first", TreeTest::refusedFirst);
         CHECK.end();
     }
 
@@ -201,13 +200,5 @@ public final class TreeTest {
         x.build(40);
         CHECK.noArgument("a landmark of an earlier build", () -> x.tree(1, 0, 0));
         CHECK.answers(0, "the one that there is now", () -> x.tree(0, 0, 0));
-    }
-
-    private static void refusedFirst() {
-        LabelRouter x = Nets.line();
-        CHECK.noState("not built, no node, no what", () -> x.tree(-1, 5, 4));
-        x.build(2);
-        CHECK.noIndex("no landmark, no node", () -> x.tree(0, 5, 0));
-        CHECK.noIndex("no landmark, no what", () -> x.tree(0, 0, 4));
     }
 }

@@ -13,7 +13,8 @@ public final class WalkTest {
         CHECK.sentence("16: IllegalStateException, when nothing is built", WalkTest::notBuilt);
         CHECK.sentence("16: IndexOutOfBoundsException, when one is no node", WalkTest::noNode);
         CHECK.sentence("16: or there is no such what", WalkTest::noSuchWhat);
-        CHECK.sentence("16, as read: a walk leaves no packet", WalkTest::noPackets);
+        CHECK.sentence("Not promised: nothing beyond the state changes described (16: walk leaves no "
+                + "packet)", WalkTest::noPackets);
         CHECK.sentence("What it is: no way is more than three times as long as need be",
                 WalkTest::atMostThreeTimes);
         CHECK.end();
@@ -52,6 +53,7 @@ public final class WalkTest {
         walk(Nets.triangle(1, 2, 2), 2, 1, 2, 1500);
         walk(Nets.triangle(333, 666, 999), 2, 1, 2, 2000);
         walk(Nets.triangle(5, 5, 10), 2, 1, 2, 3000);
+        walk(Nets.triangle(1, 1, 2), 2, 1, 2, 3000);
         walk(Nets.triangle(500, 500, 1000), 2, 1, 2, 3000);
         walk(Nets.triangle(1, 1000, 1000), 2, 1, 2, 1001);
         walk(Nets.triangle(5, 4, 8), 2, 1, 2, 1000);
