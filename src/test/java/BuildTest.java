@@ -4,6 +4,8 @@ public final class BuildTest {
 
     public static void main(String[] args) {
         CHECK.sentence("6: The network is BUILT", BuildTest::isBuilt);
+        CHECK.sentence("6: The network is BUILT (nothing is left of what was built before)",
+                BuildTest::nothingIsLeft);
         CHECK.sentence("6: how many landmarks there are", BuildTest::howMany);
         CHECK.sentence("6: There are no packets then", BuildTest::noPacketsThen);
         CHECK.sentence("6: IllegalArgumentException, when bucket is not 1 .. 40", BuildTest::bucket);
@@ -27,6 +29,24 @@ public final class BuildTest {
         CHECK.answers(4, "the landmarks are new", () -> x.landmark(4));
         x.build(40);
         CHECK.noIndex("there are fewer again", () -> x.landmark(1));
+    }
+
+    /** The same edges and bucket, on an object that was built before and on a new one. */
+    private static void nothingIsLeft() {
+        int[][] edges = {{4, 0, 2}, {4, 1, 9}, {0, 1, 5}, {1, 3, 1}, {3, 2, 4}, {2, 4, 3}};
+        for (int bucket = 1; bucket <= 5; bucket++) {
+            LabelRouter x = Nets.builtLine();
+            for (int i = 1; i < 5; i++) {
+                x.cut(i - 1, i);
+            }
+            for (int[] edge : edges) {
+                x.edge(edge[0], edge[1], edge[2]);
+            }
+            x.build(bucket);
+            LabelRouter fresh = Nets.of(5, edges);
+            fresh.build(bucket);
+            CHECK.same("bucket " + bucket, Whole.built(x, 5), Whole.built(fresh, 5));
+        }
     }
 
     private static void howMany() {

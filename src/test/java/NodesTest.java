@@ -10,6 +10,8 @@ public final class NodesTest {
         CHECK.sentence("2: without edges", NodesTest::withoutEdges);
         CHECK.sentence("2: not built", NodesTest::notBuiltThen);
         CHECK.sentence("2: no packets", NodesTest::noPacketsThen);
+        CHECK.sentence("2: There are n nodes (nothing is left of those before)",
+                NodesTest::nothingIsLeft);
         CHECK.sentence("2: IllegalArgumentException, when n is not 1 .. 40", NodesTest::refused);
         CHECK.end();
     }
@@ -121,6 +123,30 @@ public final class NodesTest {
         noPackets(x);
         CHECK.answers(0, "the first packet has number 0", () -> x.send(0, 0));
         CHECK.noArgument("and is the only one", () -> x.weight(1));
+    }
+
+    /** The same calls after nodes, on an object with a past and on a new one. */
+    private static void nothingIsLeft() {
+        for (int n = 1; n <= 4; n++) {
+            for (int bucket = 1; bucket <= n; bucket++) {
+                LabelRouter used = Nets.builtLine();
+                LabelRouter fresh = new LabelRouter();
+                String got = asked(used, n, bucket);
+                CHECK.same("line of " + n + ", bucket " + bucket, got, asked(fresh, n, bucket));
+                LabelRouter wide = Nets.ring(40, 3);
+                wide.build(2);
+                CHECK.same("after 40 nodes", asked(wide, n, bucket), got);
+            }
+        }
+    }
+
+    private static String asked(LabelRouter x, int n, int bucket) {
+        x.nodes(n);
+        for (int i = 1; i < n; i++) {
+            x.edge(i - 1, i, i);
+        }
+        x.build(bucket);
+        return Whole.built(x, n) + Whole.network(x, n) + Whole.packets(x);
     }
 
     private static void refused() {
